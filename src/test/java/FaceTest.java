@@ -24,9 +24,9 @@ public final class FaceTest {
     private static final String[] CONSTANTS = {"BAD", "NOT", "FULL", "NONE", "NULL", "CAST", "INDEX", "SIZE"};
     private static final String[] BARRED = {"->", "::", "\\bcatch\\b", "\\bthrow\\b", "\\bfinally\\b", "\\bsynchronized\\b",
         "\\bassert\\b", "\\bpackage\\b", "Exact\\b", "\\bSystem\\.(?!arraycopy)", "\\bStream\\b", "\\bprotected\\b"};
-    /** Calls beyond those of 512, so that what one call makes is not lost in what the machine makes by itself. */
+    /** Calls far beyond 512, so that what one call makes is not lost in what the machine makes by itself. */
     private static final int ROUNDS = 300;
-    private static final long FEW_BYTES = 200_000;
+    private static final long FEW_BYTES = 1_000;
 
     public static void main(String[] args) throws IOException {
         face();

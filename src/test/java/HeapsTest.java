@@ -41,6 +41,12 @@ public final class HeapsTest {
         Due.be("13: three laws", 3, byEnds(1, 2, 3, 2, 1, 99).fewest());
         Due.be("13: twelve laws", 12, byEnds(-8, -7, -6, -5, -4, -3, -2, -1, 0, 1, 2, 3).fewest());
         Due.be("13: a row that meets no law", TwoLaws.NONE, byEnds(1, 9).fewest());
+        TwoLaws first = byEnds(-8);
+        first.row(0, 4, -8);
+        Due.be("13: law 0 alone", 1, first.fewest());
+        TwoLaws last = byEnds(8);
+        last.row(0, 4, 8);
+        Due.be("13: law 288 alone", 1, last.fewest());
         TwoLaws t = byEnds(1, 2);
         t.error(1);
         Due.be("13: by the error that is", 1, t.fewest());
@@ -178,6 +184,12 @@ public final class HeapsTest {
         t.row(-99, 99, 0);
         t.row(-98, 98, 0);
         lineIs("r is 99", t, 4, 8, -3, -2, 99);
+        t.clear();
+        t.row(0, 0, 0);
+        t.row(2, -3, 0);
+        t.row(-1, 1, 0);
+        t.row(1, -2, 0);
+        lineIs("3 and 2 alone", t, 3, 12, 3, 2, 0);
     }
 
     private static void linesRefused() {
@@ -221,6 +233,12 @@ public final class HeapsTest {
         Due.be("19: back again", TwoLaws.NONE, byEnds(3, 4, 3).wear(law, 1, 0));
         Due.be("19: without rows", 0, byEnds().wear(law, 1, 1));
         Due.be("19: twelve rows", 12, byEnds(3, 3, 3, 3, 3, 3, 3, 3, 3, 3, 3, 3).wear(law, 1, 0));
+        TwoLaws pushed = byEnds();
+        pushed.row(0, 4, 5);
+        pushed.row(0, 4, 5);
+        pushed.row(4, 4, 9);
+        Due.be("19: by the push's part", 2, pushed.wear(Due.law(2, 5), 1, 1));
+        Due.be("19: not worn at all, by both parts", 3, pushed.wear(Due.law(4, 5), -1, -1));
         int[][] not = {{Due.law(8, 0), 1, 0}, {Due.law(-8, 0), -1, 0}, {Due.law(0, 8), 0, 1}, {Due.law(0, -8), 0, -1},
             {Due.law(0, 8), -1, 1}, {Due.law(8, 8), 1, -1}};
         for (int[] n : not) {
@@ -249,6 +267,7 @@ public final class HeapsTest {
             Due.be("20: not the first by rows", 0, checked(t, lane, 11, 11, 2, 2, 0));
             Due.be("20: the last heap", 11, checked(t, lane, 1, 2, 3, 4, 11));
             Due.be("20: not 12", TwoLaws.NOT, checked(t, lane, 0, 0, 0, 0, 12));
+            Due.be("20: the first is not", TwoLaws.NOT, checked(t, lane, 12, 0, 0, 0, 0));
             Due.be("20: not -1", TwoLaws.NOT, checked(t, lane, 0, 0, 0, 0, -1));
             Due.be("20: items behind do not count", 5, checked(t, lane, 0, 1, 0, 1, 5, 99));
         }

@@ -80,6 +80,8 @@ public final class RowsTest {
             Due.be("4: not before full", TwoLaws.NOT, t.rows(2, lane, 33, 1));
             t.item(2, lane, 35, -100);
             Due.be("4: not below", TwoLaws.NOT, t.rows(2, lane, 33, 1));
+            t.item(2, lane, 0, 100);
+            Due.be("4: the first is not", TwoLaws.NOT, t.rows(2, lane, 0, 1));
             Due.be("4: index before not", TwoLaws.INDEX, t.rows(2, lane, 33, 2));
             Due.be("4: cast before index", TwoLaws.CAST, t.rows(2, (lane + 1) % 3, 37, 1));
             Due.be("4: null before index", TwoLaws.NULL, t.rows(3, lane, 37, 1));

@@ -144,6 +144,7 @@ public final class TrialsTest {
         Due.be("23: ends may be any whole number", -1000004, t.apart(Due.law(8, 8), Due.law(8, 7), 99));
         Due.be("23: far apart", 0, t.apart(Due.law(8, 8), Due.law(-8, 7), 99));
         t.error(4);
+        Due.be("23: the last push below 0", -9, t.apart(Due.law(0, 0), Due.law(-6, 3), 1));
         Due.be("23: the last push above 0", 9, t.apart(Due.law(0, 4), Due.law(0, 0), 0));
     }
 
