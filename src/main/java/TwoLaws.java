@@ -745,9 +745,15 @@ public final class TwoLaws {
                 int heap = book.rowsMeeting(law);
                 if (!isWithinGreatest(heap)) {
                     dropWithin(heap);
-                    greatest[greatestCount] = heap;
-                    greatestCount++;
+                    keep(heap);
                 }
+            }
+        }
+
+        private void keep(int heap) {
+            if (greatestCount >= 0 && greatestCount < greatest.length) {
+                greatest[greatestCount] = heap;
+                greatestCount++;
             }
         }
 
@@ -757,7 +763,7 @@ public final class TwoLaws {
                     return true;
                 }
             }
-            return greatestCount >= greatest.length;
+            return false;
         }
 
         private void dropWithin(int heap) {
@@ -936,7 +942,7 @@ public final class TwoLaws {
         void gather(int heap) {
             lawCount = 0;
             for (int law = 0; law < laws.length; law++) {
-                if (book.letsLaw(heap, law)) {
+                if (book.letsLaw(heap, law) && lawCount < laws.length) {
                     laws[lawCount] = law;
                     lawCount++;
                 }
