@@ -2,7 +2,7 @@
 public final class HeapsEdgesTest {
     private static final int BAD = TwoLaws.BAD, NOT = TwoLaws.NOT, NONE = TwoLaws.NONE;
     private static final int NULL = TwoLaws.NULL, CAST = TwoLaws.CAST, INDEX = TwoLaws.INDEX;
-    private static final int GAP = 99;
+    private static final int GAP = Works.GAP;
 
     public static void main(String[] args) {
         fewestWithoutRows();
@@ -45,22 +45,8 @@ public final class HeapsEdgesTest {
         Due.end();
     }
 
-    /** With an error of 0 rows of state 4 and push 0: the end is the one part a that is met; a gap for 99. */
-    private static TwoLaws byEnds(int... ends) {
-        TwoLaws t = new TwoLaws();
-        t.error(0);
-        for (int y : ends) {
-            if (y == GAP) {
-                t.gap(4, 0);
-            } else {
-                t.row(4, 0, y);
-            }
-        }
-        return t;
-    }
-
     private static TwoLaws unlike(int n) {
-        TwoLaws t = byEnds();
+        TwoLaws t = Works.byEnds();
         for (int k = 0; k < n; k++) {
             t.row(4, 0, k - 8);
         }
@@ -79,22 +65,22 @@ public final class HeapsEdgesTest {
     /** Terms: FEWEST is "0 without ROWS". */
     private static void fewestWithoutRows() {
         Edges.taken("13: fresh", 0, Works::fresh, TwoLaws::fewest);
-        TwoLaws t = byEnds(1, 2);
+        TwoLaws t = Works.byEnds(1, 2);
         t.fewest();
         t.clear();
         Due.be("13: all rows went", 0, t.fewest());
-        Due.be("13: one gap is a row", 1, byEnds(GAP).fewest());
+        Due.be("13: one gap is a row", 1, Works.byEnds(GAP).fewest());
     }
 
     /** Promise 13: "NONE"; Terms: "none, if some ROW MEETS no LAW". */
     private static void fewestNone() {
-        Edges.taken("13: the greatest end that is met", 1, () -> byEnds(8), TwoLaws::fewest);
-        Edges.refused("13: the next is not", NONE, () -> byEnds(9), TwoLaws::fewest);
-        Edges.taken("13: the least end that is met", 1, () -> byEnds(-8), TwoLaws::fewest);
-        Edges.refused("13: the next is not", NONE, () -> byEnds(-9), TwoLaws::fewest);
-        Edges.refused("13: the first alone is not met", NONE, () -> byEnds(9, 1, 1, GAP), TwoLaws::fewest);
-        Edges.refused("13: the last of twelve is not met", NONE, () -> byEnds(1, 1, 1, 1, 1, 1, 1, 1, 1, 1, GAP, 9), TwoLaws::fewest);
-        TwoLaws t = byEnds(9);
+        Edges.taken("13: the greatest end that is met", 1, () -> Works.byEnds(8), TwoLaws::fewest);
+        Edges.refused("13: the next is not", NONE, () -> Works.byEnds(9), TwoLaws::fewest);
+        Edges.taken("13: the least end that is met", 1, () -> Works.byEnds(-8), TwoLaws::fewest);
+        Edges.refused("13: the next is not", NONE, () -> Works.byEnds(-9), TwoLaws::fewest);
+        Edges.refused("13: the first alone is not met", NONE, () -> Works.byEnds(9, 1, 1, GAP), TwoLaws::fewest);
+        Edges.refused("13: the last of twelve is not met", NONE, () -> Works.byEnds(1, 1, 1, 1, 1, 1, 1, 1, 1, 1, GAP, 9), TwoLaws::fewest);
+        TwoLaws t = Works.byEnds(9);
         t.error(1);
         Due.be("13: met within another error", 1, t.fewest());
     }
@@ -104,8 +90,8 @@ public final class HeapsEdgesTest {
         for (int n = 1; n <= 12; n++) {
             Due.be("13: " + n + " unlike rows", n, unlike(n).fewest());
         }
-        Due.be("13: twelve gaps", 1, byEnds(GAP, GAP, GAP, GAP, GAP, GAP, GAP, GAP, GAP, GAP, GAP, GAP).fewest());
-        Due.be("13: twelve of one law", 1, byEnds(3, 3, 3, 3, 3, 3, 3, 3, 3, 3, 3, 3).fewest());
+        Due.be("13: twelve gaps", 1, Works.byEnds(GAP, GAP, GAP, GAP, GAP, GAP, GAP, GAP, GAP, GAP, GAP, GAP).fewest());
+        Due.be("13: twelve of one law", 1, Works.byEnds(3, 3, 3, 3, 3, 3, 3, 3, 3, 3, 3, 3).fewest());
     }
 
     /** Promise 14: "k LAWS (0 .. 6): how many (0), which, as bits (1). BAD." */
@@ -123,10 +109,10 @@ public final class HeapsEdgesTest {
 
     /** Terms: "ROWS that MEET none of k LAWS": of no law all rows, gaps too. */
     private static void letGoForNoLaw() {
-        Due.be("14: no law, no row", 0, byEnds().letGo(0, 0));
-        Due.be("14: no law, no row, which", 0, byEnds().letGo(0, 1));
-        Due.be("14: no law, a row and a gap", 2, byEnds(1, GAP).letGo(0, 0));
-        Due.be("14: no law, a row and a gap, which", 3, byEnds(1, GAP).letGo(0, 1));
+        Due.be("14: no law, no row", 0, Works.byEnds().letGo(0, 0));
+        Due.be("14: no law, no row, which", 0, Works.byEnds().letGo(0, 1));
+        Due.be("14: no law, a row and a gap", 2, Works.byEnds(1, GAP).letGo(0, 0));
+        Due.be("14: no law, a row and a gap, which", 3, Works.byEnds(1, GAP).letGo(0, 1));
         Due.be("14: no law, twelve rows, which", 4095, Works.full().letGo(0, 1));
     }
 
@@ -138,19 +124,19 @@ public final class HeapsEdgesTest {
             Due.be("14: one law too few, " + k, 1, unlike(k + 1).letGo(k, 0));
         }
         Due.be("14: more laws than rows", 0, unlike(2).letGo(6, 0));
-        Due.be("14: a row that meets no law", 1, byEnds(1, 9).letGo(6, 0));
-        Due.be("14: a row that meets no law, which", 2, byEnds(1, 9).letGo(6, 1));
-        Due.be("14: a gap is never let go for one law", 0, byEnds(GAP).letGo(1, 0));
+        Due.be("14: a row that meets no law", 1, Works.byEnds(1, 9).letGo(6, 0));
+        Due.be("14: a row that meets no law, which", 2, Works.byEnds(1, 9).letGo(6, 1));
+        Due.be("14: a gap is never let go for one law", 0, Works.byEnds(GAP).letGo(1, 0));
     }
 
     /** Terms: "of like many the least bits". */
     private static void letGoLeastBits() {
-        Due.be("14: row 0 of two", 0b01, byEnds(1, 2).letGo(1, 1));
-        Due.be("14: rows 0, 1 of three", 0b011, byEnds(1, 2, 3).letGo(1, 1));
-        Due.be("14: fewer rows before less bits", 0b100, byEnds(1, 1, 2).letGo(1, 1));
-        Due.be("14: the least number, not the lowest row", 0b0110, byEnds(1, 2, 2, 1).letGo(1, 1));
+        Due.be("14: row 0 of two", 0b01, Works.byEnds(1, 2).letGo(1, 1));
+        Due.be("14: rows 0, 1 of three", 0b011, Works.byEnds(1, 2, 3).letGo(1, 1));
+        Due.be("14: fewer rows before less bits", 0b100, Works.byEnds(1, 1, 2).letGo(1, 1));
+        Due.be("14: the least number, not the lowest row", 0b0110, Works.byEnds(1, 2, 2, 1).letGo(1, 1));
         Due.be("14: eleven of twelve", 0b011111111111, unlike(12).letGo(1, 1));
-        Due.be("14: for two laws", 0b0011, byEnds(1, 2, 3, 4).letGo(2, 1));
+        Due.be("14: for two laws", 0b0011, Works.byEnds(1, 2, 3, 4).letGo(2, 1));
     }
 
     /** Promise 15: "BAD" of either row. */
@@ -170,31 +156,31 @@ public final class HeapsEdgesTest {
             Edges.refused("15: row " + r + " and itself", BAD, Works::lived, t -> t.together(one, one));
         }
         Edges.refused("15: no such row and itself", BAD, Works::lived, t -> t.together(5, 5));
-        Edges.refused("15: one row, BAD before NONE", BAD, () -> byEnds(9, 1), t -> t.together(1, 1));
+        Edges.refused("15: one row, BAD before NONE", BAD, () -> Works.byEnds(9, 1), t -> t.together(1, 1));
     }
 
     /** Promise 15: "NONE: there is no PARTING"; BAD is named first. */
     private static void togetherNone() {
-        Edges.refused("15: a third row meets no law", NONE, () -> byEnds(1, 1, 9), t -> t.together(0, 1));
-        Edges.refused("15: both meet no law", NONE, () -> byEnds(9, 9), t -> t.together(0, 1));
-        Edges.refused("15: BAD before NONE", BAD, () -> byEnds(9, 9), t -> t.together(0, 2));
-        Edges.refused("15: BAD below before NONE", BAD, () -> byEnds(9, 9), t -> t.together(-1, 0));
+        Edges.refused("15: a third row meets no law", NONE, () -> Works.byEnds(1, 1, 9), t -> t.together(0, 1));
+        Edges.refused("15: both meet no law", NONE, () -> Works.byEnds(9, 9), t -> t.together(0, 1));
+        Edges.refused("15: BAD before NONE", BAD, () -> Works.byEnds(9, 9), t -> t.together(0, 2));
+        Edges.refused("15: BAD below before NONE", BAD, () -> Works.byEnds(9, 9), t -> t.together(-1, 0));
     }
 
     /** Terms: "2 in all PARTINGS, 1 in some, 0 in none"; a parting is in FEWEST heaps. */
     private static void togetherOfTwoRows() {
-        Due.be("15: one heap is enough", 2, byEnds(1, 1).together(0, 1));
-        Due.be("15: two gaps in one heap", 2, byEnds(GAP, GAP).together(0, 1));
-        Due.be("15: two heaps are needed", 0, byEnds(1, 2).together(1, 0));
-        Due.be("15: a gap in either of two", 1, byEnds(1, 2, GAP).together(0, 2));
-        Due.be("15: two gaps beside two heaps", 1, byEnds(1, 2, GAP, GAP).together(2, 3));
-        Due.be("15: like rows might be in two heaps, but not of the fewest", 2, byEnds(1, 1, 2).together(0, 1));
+        Due.be("15: one heap is enough", 2, Works.byEnds(1, 1).together(0, 1));
+        Due.be("15: two gaps in one heap", 2, Works.byEnds(GAP, GAP).together(0, 1));
+        Due.be("15: two heaps are needed", 0, Works.byEnds(1, 2).together(1, 0));
+        Due.be("15: a gap in either of two", 1, Works.byEnds(1, 2, GAP).together(0, 2));
+        Due.be("15: two gaps beside two heaps", 1, Works.byEnds(1, 2, GAP, GAP).together(2, 3));
+        Due.be("15: like rows might be in two heaps, but not of the fewest", 2, Works.byEnds(1, 1, 2).together(0, 1));
         Due.be("15: twelve unlike rows", 0, unlike(12).together(10, 11));
     }
 
     /** Promise 16: "BAD less 1000000" of the heap, x, u, what. */
     private static void spanBounds() {
-        Edges.between("16: the heap", 0, 7, Edges.BAD_BELOW, () -> byEnds(3, 3, 3), (t, v) -> t.span(v, 1, 1, 0));
+        Edges.between("16: the heap", 0, 7, Edges.BAD_BELOW, () -> Works.byEnds(3, 3, 3), (t, v) -> t.span(v, 1, 1, 0));
         Edges.between("16: the heap without rows", 0, 0, Edges.BAD_BELOW, Works::fresh, (t, v) -> t.span(v, 1, 1, 0));
         Edges.between("16: the heap of a full one", 0, 4095, Edges.BAD_BELOW, Works::full, (t, v) -> t.span(v, 1, 1, 0));
         Edges.between("16: x", -99, 99, Edges.BAD_BELOW, Works::lived, (t, v) -> t.span(1, v, 1, 0));
@@ -206,7 +192,7 @@ public final class HeapsEdgesTest {
     private static void spanNone() {
         Edges.refused("16: not whole, least", Edges.NONE_BELOW, Works::lived, t -> t.span(9, 1, 1, 0));
         Edges.refused("16: not whole, greatest", Edges.NONE_BELOW, Works::lived, t -> t.span(9, 1, 1, 1));
-        Edges.refused("16: a row that meets no law", Edges.NONE_BELOW, () -> byEnds(9), t -> t.span(1, 0, 0, 0));
+        Edges.refused("16: a row that meets no law", Edges.NONE_BELOW, () -> Works.byEnds(9), t -> t.span(1, 0, 0, 0));
         Edges.refused("16: BAD what before NONE", Edges.BAD_BELOW, Works::lived, t -> t.span(9, 1, 1, 2));
         Edges.refused("16: BAD x before NONE", Edges.BAD_BELOW, Works::lived, t -> t.span(9, 100, 1, 0));
         Edges.refused("16: BAD u before NONE", Edges.BAD_BELOW, Works::lived, t -> t.span(9, 1, -100, 0));
@@ -219,7 +205,7 @@ public final class HeapsEdgesTest {
             int u = k / 2 == 0 ? -99 : 99;
             Due.be("16: the least of all laws", -1584, Works.fresh().span(0, x, u, 0));
             Due.be("16: the greatest of all laws", 1584, Works.fresh().span(0, x, u, 1));
-            TwoLaws t = byEnds(8);
+            TwoLaws t = Works.byEnds(8);
             t.row(0, 4, -8);
             Due.be("16: of one law, least", 8 * x - 8 * u, t.span(3, x, u, 0));
             Due.be("16: of one law, greatest", 8 * x - 8 * u, t.span(3, x, u, 1));
@@ -363,35 +349,35 @@ public final class HeapsEdgesTest {
         }
         Edges.refused("19: one part beyond, one not", NOT, Works::fresh, t -> t.wear(Due.law(8, 0), 1, -1));
         Edges.refused("19: b beyond does not become a's next", NOT, Works::fresh, t -> t.wear(Due.law(0, 8), 1, 1));
-        Edges.refused("19: NOT before NONE", NOT, () -> byEnds(9), t -> t.wear(Due.law(8, 0), 1, 0));
+        Edges.refused("19: NOT before NONE", NOT, () -> Works.byEnds(9), t -> t.wear(Due.law(8, 0), 1, 0));
     }
 
     /** Promise 19: "NONE". */
     private static void wearNone() {
         int law = Due.law(3, 0);
-        Edges.refused("19: worn, then not", NONE, () -> byEnds(4, 3), t -> t.wear(law, 1, 0));
-        Edges.refused("19: a row of neither", NONE, () -> byEnds(3, 5, 4), t -> t.wear(law, 1, 0));
-        Edges.refused("19: the first is of neither", NONE, () -> byEnds(5, 3, 4), t -> t.wear(law, 1, 0));
-        Edges.refused("19: the last is of neither", NONE, () -> byEnds(3, 4, 5), t -> t.wear(law, 1, 0));
+        Edges.refused("19: worn, then not", NONE, () -> Works.byEnds(4, 3), t -> t.wear(law, 1, 0));
+        Edges.refused("19: a row of neither", NONE, () -> Works.byEnds(3, 5, 4), t -> t.wear(law, 1, 0));
+        Edges.refused("19: the first is of neither", NONE, () -> Works.byEnds(5, 3, 4), t -> t.wear(law, 1, 0));
+        Edges.refused("19: the last is of neither", NONE, () -> Works.byEnds(3, 4, 5), t -> t.wear(law, 1, 0));
     }
 
     /** Terms: "the least ROW s (0 .. how many ROWS there are)". */
     private static void wearFirstAndLast() {
         int law = Due.law(3, 0);
-        Due.be("19: without rows", 0, byEnds().wear(law, 1, 0));
-        Due.be("19: one row, worn", 0, byEnds(4).wear(law, 1, 0));
-        Due.be("19: one row, not worn", 1, byEnds(3).wear(law, 1, 0));
-        Due.be("19: all twelve are worn", 0, byEnds(4, 4, 4, 4, 4, 4, 4, 4, 4, 4, 4, 4).wear(law, 1, 0));
-        Due.be("19: the last of twelve is worn", 11, byEnds(3, 3, 3, 3, 3, 3, 3, 3, 3, 3, 3, 4).wear(law, 1, 0));
-        Due.be("19: none of twelve is worn", 12, byEnds(3, 3, 3, 3, 3, 3, 3, 3, 3, 3, 3, 3).wear(law, 1, 0));
-        Due.be("19: gaps alone", 0, byEnds(GAP, GAP).wear(law, 1, 0));
-        Due.be("19: a gap between goes with the worn", 1, byEnds(3, GAP, 4).wear(law, 1, 0));
-        Due.be("19: a gap at last", 1, byEnds(3, GAP).wear(law, 1, 0));
+        Due.be("19: without rows", 0, Works.byEnds().wear(law, 1, 0));
+        Due.be("19: one row, worn", 0, Works.byEnds(4).wear(law, 1, 0));
+        Due.be("19: one row, not worn", 1, Works.byEnds(3).wear(law, 1, 0));
+        Due.be("19: all twelve are worn", 0, Works.byEnds(4, 4, 4, 4, 4, 4, 4, 4, 4, 4, 4, 4).wear(law, 1, 0));
+        Due.be("19: the last of twelve is worn", 11, Works.byEnds(3, 3, 3, 3, 3, 3, 3, 3, 3, 3, 3, 4).wear(law, 1, 0));
+        Due.be("19: none of twelve is worn", 12, Works.byEnds(3, 3, 3, 3, 3, 3, 3, 3, 3, 3, 3, 3).wear(law, 1, 0));
+        Due.be("19: gaps alone", 0, Works.byEnds(GAP, GAP).wear(law, 1, 0));
+        Due.be("19: a gap between goes with the worn", 1, Works.byEnds(3, GAP, 4).wear(law, 1, 0));
+        Due.be("19: a gap at last", 1, Works.byEnds(3, GAP).wear(law, 1, 0));
     }
 
     /** Terms: rows MEET the laws within the error that is. */
     private static void wearAtTheError() {
-        TwoLaws t = byEnds(3, 5);
+        TwoLaws t = Works.byEnds(3, 5);
         Due.be("19: a row is 4 quarters off", NONE, t.wear(Due.law(3, 0), 1, 0));
         t.error(1);
         Due.be("19: within the error, both are worn", 0, t.wear(Due.law(3, 0), 1, 0));
@@ -400,7 +386,7 @@ public final class HeapsEdgesTest {
     }
 
     private static TwoLaws withHeaps(int lane, int... heaps) {
-        TwoLaws t = byEnds(3, 4, 3, GAP);
+        TwoLaws t = Works.byEnds(3, 4, 3, GAP);
         t.sheet(1, lane, 36);
         for (int i = 0; i < heaps.length; i++) {
             t.item(1, lane, i, heaps[i]);
@@ -489,7 +475,7 @@ public final class HeapsEdgesTest {
     }
 
     private static int checkedOneHeap(int... ends) {
-        TwoLaws t = byEnds(ends);
+        TwoLaws t = Works.byEnds(ends);
         t.sheet(0, 0, 36);
         return t.check(0, 0, 0);
     }
@@ -498,7 +484,7 @@ public final class HeapsEdgesTest {
     private static void checkFirst() {
         Due.be("20: heap 0", 0, withHeaps(1, 0, 0, 5, 5).check(1, 1, 0));
         Due.be("20: heap 11", 11, withHeaps(1, 11, 11, 5, 5).check(1, 1, 0));
-        TwoLaws t = byEnds(9, 9, 1, 9);
+        TwoLaws t = Works.byEnds(9, 9, 1, 9);
         t.sheet(1, 1, 4);
         for (int r = 0; r < 4; r++) {
             t.item(1, 1, r, 11 - 2 * r);

@@ -19,35 +19,21 @@ public final class HeapsTest {
         Due.end();
     }
 
-    /** Rows x 4, u 0, whose law is told by the end alone: a is the end; and a gap for 99. */
-    private static TwoLaws byEnds(int... ends) {
-        TwoLaws t = new TwoLaws();
-        t.error(0);
-        for (int y : ends) {
-            if (y == 99) {
-                t.gap(4, 0);
-            } else {
-                t.row(4, 0, y);
-            }
-        }
-        return t;
-    }
-
     private static void fewest() {
-        Due.be("13: without rows", 0, byEnds().fewest());
-        Due.be("13: a gap", 1, byEnds(99).fewest());
-        Due.be("13: gaps", 1, byEnds(99, 99, 99).fewest());
-        Due.be("13: one row", 1, byEnds(8).fewest());
-        Due.be("13: three laws", 3, byEnds(1, 2, 3, 2, 1, 99).fewest());
-        Due.be("13: twelve laws", 12, byEnds(-8, -7, -6, -5, -4, -3, -2, -1, 0, 1, 2, 3).fewest());
-        Due.be("13: a row that meets no law", TwoLaws.NONE, byEnds(1, 9).fewest());
-        TwoLaws first = byEnds(-8);
+        Due.be("13: without rows", 0, Works.byEnds().fewest());
+        Due.be("13: a gap", 1, Works.byEnds(Works.GAP).fewest());
+        Due.be("13: gaps", 1, Works.byEnds(Works.GAP, Works.GAP, Works.GAP).fewest());
+        Due.be("13: one row", 1, Works.byEnds(8).fewest());
+        Due.be("13: three laws", 3, Works.byEnds(1, 2, 3, 2, 1, Works.GAP).fewest());
+        Due.be("13: twelve laws", 12, Works.byEnds(-8, -7, -6, -5, -4, -3, -2, -1, 0, 1, 2, 3).fewest());
+        Due.be("13: a row that meets no law", TwoLaws.NONE, Works.byEnds(1, 9).fewest());
+        TwoLaws first = Works.byEnds(-8);
         first.row(0, 4, -8);
         Due.be("13: law 0 alone", 1, first.fewest());
-        TwoLaws last = byEnds(8);
+        TwoLaws last = Works.byEnds(8);
         last.row(0, 4, 8);
         Due.be("13: law 288 alone", 1, last.fewest());
-        TwoLaws t = byEnds(1, 2);
+        TwoLaws t = Works.byEnds(1, 2);
         t.error(1);
         Due.be("13: by the error that is", 1, t.fewest());
         t.error(0);
@@ -58,7 +44,7 @@ public final class HeapsTest {
         Due.be("13: other rows", 1, t.fewest());
         t.row(4, 0, 6);
         Due.be("13: a row more", 2, t.fewest());
-        TwoLaws s = byEnds();
+        TwoLaws s = Works.byEnds();
         s.error(1);
         s.row(4, 0, 0);
         s.row(4, 0, 2);
@@ -67,7 +53,7 @@ public final class HeapsTest {
     }
 
     private static void lettingGo() {
-        TwoLaws t = byEnds(1, 2, 2, 3, 9, 99);
+        TwoLaws t = Works.byEnds(1, 2, 2, 3, 9, Works.GAP);
         int[] many = {6, 3, 2, 1, 1, 1, 1};
         int[] bits = {63, 1 | 8 | 16, 1 | 16, 16, 16, 16, 16};
         for (int k = 0; k <= 6; k++) {
@@ -78,17 +64,17 @@ public final class HeapsTest {
         for (int[] b : bad) {
             Due.be("14: bad", TwoLaws.BAD, t.letGo(b[0], b[1]));
         }
-        TwoLaws all = byEnds(-8, -7, -6, -5, -4, -3, -2, -1, 0, 1, 2, 3);
+        TwoLaws all = Works.byEnds(-8, -7, -6, -5, -4, -3, -2, -1, 0, 1, 2, 3);
         Due.be("14: of twelve, six laws", 6, all.letGo(6, 0));
         Due.be("14: the least bits", 63, all.letGo(6, 1));
-        Due.be("14: without rows", 0, byEnds().letGo(0, 1));
+        Due.be("14: without rows", 0, Works.byEnds().letGo(0, 1));
     }
 
     private static void lettingGoOfLikeMany() {
-        Due.be("14: of like many the least bits", 1, byEnds(5, 6).letGo(1, 1));
-        Due.be("14: 1 and 2 are less than 4 and 8", 3, byEnds(5, 5, 6, 6).letGo(1, 1));
-        Due.be("14: 1 and 4 are less than 2 and 8", 5, byEnds(5, 6, 5, 6).letGo(1, 1));
-        Due.be("14: 2 and 4 are less than 1 and 8", 6, byEnds(5, 6, 6, 5).letGo(1, 1));
+        Due.be("14: of like many the least bits", 1, Works.byEnds(5, 6).letGo(1, 1));
+        Due.be("14: 1 and 2 are less than 4 and 8", 3, Works.byEnds(5, 5, 6, 6).letGo(1, 1));
+        Due.be("14: 1 and 4 are less than 2 and 8", 5, Works.byEnds(5, 6, 5, 6).letGo(1, 1));
+        Due.be("14: 2 and 4 are less than 1 and 8", 6, Works.byEnds(5, 6, 6, 5).letGo(1, 1));
     }
 
     private static void pairs(String name, TwoLaws t, int... want) {
@@ -103,26 +89,26 @@ public final class HeapsTest {
     }
 
     private static void together() {
-        pairs("one law", byEnds(3, 3), 2);
-        pairs("one law, a gap", byEnds(3, 99), 2);
-        pairs("two laws", byEnds(3, 5), 0);
-        pairs("two laws, a gap", byEnds(3, 5, 99), 0, 1, 1);
-        pairs("two laws, three rows", byEnds(3, 5, 5), 0, 0, 2);
-        pairs("three laws", byEnds(3, 4, 5), 0, 0, 0);
-        TwoLaws t = byEnds(0, 2, 4);
+        pairs("one law", Works.byEnds(3, 3), 2);
+        pairs("one law, a gap", Works.byEnds(3, Works.GAP), 2);
+        pairs("two laws", Works.byEnds(3, 5), 0);
+        pairs("two laws, a gap", Works.byEnds(3, 5, Works.GAP), 0, 1, 1);
+        pairs("two laws, three rows", Works.byEnds(3, 5, 5), 0, 0, 2);
+        pairs("three laws", Works.byEnds(3, 4, 5), 0, 0, 0);
+        TwoLaws t = Works.byEnds(0, 2, 4);
         t.error(1);
         pairs("the middle goes to either", t, 1, 0, 1);
-        t = byEnds(0, 2, 4, 6);
+        t = Works.byEnds(0, 2, 4, 6);
         t.error(1);
         pairs("only twos", t, 2, 0, 0, 0, 0, 2);
         // 1 and 3 are whole, but each must go with its own end for two heaps to be enough.
-        t = byEnds(0, 1, 2, 3, 4);
+        t = Works.byEnds(0, 1, 2, 3, 4);
         t.error(1);
         pairs("a chain", t, 2, 1, 0, 0, 1, 0, 0, 1, 1, 2);
     }
 
     private static void togetherRefused() {
-        TwoLaws t = byEnds(3, 9);
+        TwoLaws t = Works.byEnds(3, 9);
         Due.be("15: no parting", TwoLaws.NONE, t.together(0, 1));
         int[][] bad = {{0, 0}, {0, 2}, {2, 0}, {-1, 0}, {0, -1}, {LEAST, MOST}, {MOST, 1}};
         for (int[] b : bad) {
@@ -131,7 +117,7 @@ public final class HeapsTest {
     }
 
     private static void spans() {
-        TwoLaws t = byEnds(3, 5);
+        TwoLaws t = Works.byEnds(3, 5);
         t.row(0, 4, -2);
         Due.be("16: all laws, least", -80, t.span(0, 5, 5, 0));
         Due.be("16: all laws, greatest", 80, t.span(0, 5, 5, 1));
@@ -204,7 +190,7 @@ public final class HeapsTest {
     }
 
     private static void hours() {
-        TwoLaws t = byEnds(1, 1, 1, 1, 1, 1, 1, 1);
+        TwoLaws t = Works.byEnds(1, 1, 1, 1, 1, 1, 1, 1);
         Due.be("18: an empty heap", 1, t.hours(0, 255));
         Due.be("18: empty heaps", 1, t.hours(0, 0));
         Due.be("18: by 2", 2, t.hours(0b01010101, 0b10101010));
@@ -221,19 +207,19 @@ public final class HeapsTest {
     }
 
     private static void wear() {
-        TwoLaws t = byEnds(3, 3, 99, 4, 4);
+        TwoLaws t = Works.byEnds(3, 3, Works.GAP, 4, 4);
         int law = Due.law(3, 0);
         Due.be("19: the gap is by the worn law already", 2, t.wear(law, 1, 0));
         Due.be("19: both steps", 2, t.wear(law, 1, -1));
         Due.be("19: not this way", TwoLaws.NONE, t.wear(law, -1, 0));
         Due.be("19: the state's part stays", TwoLaws.NONE, t.wear(law, 0, 1));
-        Due.be("19: worn from the first row on", 0, byEnds(4, 4).wear(law, 1, 0));
-        Due.be("19: not worn at all", 2, byEnds(3, 3).wear(law, 1, 0));
-        Due.be("19: the least of several", 0, byEnds(3, 3).wear(law, 0, 1));
-        Due.be("19: back again", TwoLaws.NONE, byEnds(3, 4, 3).wear(law, 1, 0));
-        Due.be("19: without rows", 0, byEnds().wear(law, 1, 1));
-        Due.be("19: twelve rows", 12, byEnds(3, 3, 3, 3, 3, 3, 3, 3, 3, 3, 3, 3).wear(law, 1, 0));
-        TwoLaws pushed = byEnds();
+        Due.be("19: worn from the first row on", 0, Works.byEnds(4, 4).wear(law, 1, 0));
+        Due.be("19: not worn at all", 2, Works.byEnds(3, 3).wear(law, 1, 0));
+        Due.be("19: the least of several", 0, Works.byEnds(3, 3).wear(law, 0, 1));
+        Due.be("19: back again", TwoLaws.NONE, Works.byEnds(3, 4, 3).wear(law, 1, 0));
+        Due.be("19: without rows", 0, Works.byEnds().wear(law, 1, 1));
+        Due.be("19: twelve rows", 12, Works.byEnds(3, 3, 3, 3, 3, 3, 3, 3, 3, 3, 3, 3).wear(law, 1, 0));
+        TwoLaws pushed = Works.byEnds();
         pushed.row(0, 4, 5);
         pushed.row(0, 4, 5);
         pushed.row(4, 4, 9);
@@ -260,7 +246,7 @@ public final class HeapsTest {
     }
 
     private static void checks() {
-        TwoLaws t = byEnds(3, 4, 3, 99, 9);
+        TwoLaws t = Works.byEnds(3, 4, 3, Works.GAP, 9);
         for (int lane = 0; lane < 3; lane++) {
             Due.be("20: a row that meets no law", 5, checked(t, lane, 0, 1, 0, 1, 5));
             Due.be("20: the first heap by number", 2, checked(t, lane, 7, 7, 2, 2, 2));
@@ -271,7 +257,7 @@ public final class HeapsTest {
             Due.be("20: not -1", TwoLaws.NOT, checked(t, lane, 0, 0, 0, 0, -1));
             Due.be("20: items behind do not count", 5, checked(t, lane, 0, 1, 0, 1, 5, 99));
         }
-        TwoLaws s = byEnds(3, 4, 3, 99);
+        TwoLaws s = Works.byEnds(3, 4, 3, Works.GAP);
         Due.be("20: all are", TwoLaws.NONE, checked(s, 1, 0, 1, 0, 1));
         Due.be("20: more heaps than fewest", TwoLaws.NONE, checked(s, 1, 0, 1, 2, 3));
         Due.be("20: one is not", 0, checked(s, 1, 0, 0, 1, 1));
@@ -280,7 +266,7 @@ public final class HeapsTest {
     }
 
     private static void checksRefused() {
-        TwoLaws t = byEnds(3, 4, 3);
+        TwoLaws t = Works.byEnds(3, 4, 3);
         t.sheet(2, 1, 5);
         Due.be("20: as far as it goes", 0, t.check(2, 1, 2));
         Due.be("20: beyond", TwoLaws.INDEX, t.check(2, 1, 3));

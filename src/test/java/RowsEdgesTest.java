@@ -38,7 +38,9 @@ public final class RowsEdgesTest {
         toldBounds();
         toldGap();
         clearEmptyAndFull();
+        clearThenAsManyRows();
         errorBounds();
+        errorOfRowsThatAreThere();
         meetsBounds();
         meetsAtTheError();
         meetsLawsAtTheEnds();
@@ -521,6 +523,43 @@ public final class RowsEdgesTest {
         Due.be("8: room again", 0, t.gap(1, 1));
         Due.be("8: all else stays, the tape", FULL, t.type(32, 1));
         Due.be("8: all else stays, known laws", 4, t.count(2));
+    }
+
+    private static void heapsAre(String name, TwoLaws t, int laws, int fewest, int letGo, int together) {
+        Due.be(name + ", laws", laws, t.lets(3, -1));
+        Due.be(name + ", fewest", fewest, t.fewest());
+        Due.be(name + ", let go", letGo, t.letGo(1, 1));
+        Due.be(name + ", together", together, t.together(0, 1));
+    }
+
+    /** Promise 8: "All ROWS go", also where as many come again. */
+    private static void clearThenAsManyRows() {
+        TwoLaws t = Works.byEnds(1, 1);
+        heapsAre("8: two of one law", t, 17, 1, 0, 2);
+        t.clear();
+        t.row(4, 0, 2);
+        t.row(4, 0, 3);
+        Due.be("8: the law of the first that went", 0, t.meets(0, Due.law(1, 0)));
+        Due.be("8: the law of the first that came", 1, t.meets(0, Due.law(2, 0)));
+        heapsAre("8: two of two laws", t, 0, 2, 1, 0);
+        t.clear();
+        t.gap(4, 0);
+        t.row(4, 0, 4);
+        heapsAre("8: a gap and one of a law", t, 17, 1, 0, 2);
+    }
+
+    /** Promise 9: rows that are there meet laws within the new ERROR. */
+    private static void errorOfRowsThatAreThere() {
+        TwoLaws t = Works.byEnds(1, 2);
+        heapsAre("9: error 0", t, 0, 2, 1, 0);
+        t.error(1);
+        heapsAre("9: error 1", t, 34, 1, 0, 2);
+        t.error(0);
+        heapsAre("9: error 0 again", t, 0, 2, 1, 0);
+        t.error(21);
+        heapsAre("9: a refused error", t, 0, 2, 1, 0);
+        t.error(20);
+        heapsAre("9: error 20", t, 289, 1, 0, 2);
     }
 
     /** Promise 9: the ERROR is 0 .. 20; "BAD". */

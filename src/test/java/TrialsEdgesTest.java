@@ -39,6 +39,7 @@ public final class TrialsEdgesTest {
         watchAtTheError();
         watchRings();
         watchOfFourLaws();
+        watchUpToTheLastCall();
         Due.end();
     }
 
@@ -421,6 +422,8 @@ public final class TrialsEdgesTest {
         Due.be("29: a ring again, by none: all may be", 16 + 0b111, t.watch(1, 1, 9));
         Due.be("29: watched", 6, t.count(3));
         Due.be("29: rang", 3, t.count(4));
+        Due.be("29: met by law 0, which is not known: all may be", 16 + 0b1, knowing(0, Due.law(4, 0)).watch(4, 0, -8));
+        Due.be("29: law 0 is not the fourth", 16 + 0b111, knowing(0, 288, 287, 144).watch(4, 4, -16));
         Due.be("29: one law alone is left", 1, knowing(1, 144).watch(0, 0, 1));
         Due.be("29: one law alone rings", 17, knowing(1, 144).watch(0, 0, 2));
     }
@@ -433,5 +436,16 @@ public final class TrialsEdgesTest {
         Due.be("29: the fourth alone, a ring", 16 + 0b1000, t.watch(8, 0, 8));
         Due.be("29: all four, a ring", 16 + 0b1111, t.watch(0, 0, 99));
         Due.be("29: no row comes of it", 12, t.count(0));
+    }
+
+    /** "An object is used for at most 512 calls": the counts are right up to the last. */
+    private static void watchUpToTheLastCall() {
+        TwoLaws t = Works.fresh();
+        t.know(144);
+        for (int call = 2; call <= 510; call++) {
+            Due.be("29: call " + call, 17, t.watch(0, 0, 99));
+        }
+        Due.be("29: call 511, watched", 509, t.count(3));
+        Due.be("29: call 512, rang", 509, t.count(4));
     }
 }

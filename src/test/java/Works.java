@@ -1,5 +1,8 @@
 /** Objects in the states in which edges are looked at, a new one at each call. */
 final class Works {
+    /** In place of an end of byEnds: a gap. */
+    static final int GAP = 99;
+
     private Works() {
     }
 
@@ -71,5 +74,19 @@ final class Works {
     /** Sheets 0 to 3 of the full object are bytes, shorts, ints, ints. */
     static int laneOfFull(int sheet) {
         return Math.min(sheet, 2);
+    }
+
+    /** With an error of 0 rows of state 4 and push 0: a row's end is the one part a of the laws that it meets. */
+    static TwoLaws byEnds(int... ends) {
+        TwoLaws t = new TwoLaws();
+        t.error(0);
+        for (int y : ends) {
+            if (y == GAP) {
+                t.gap(4, 0);
+            } else {
+                t.row(4, 0, y);
+            }
+        }
+        return t;
     }
 }
