@@ -16,6 +16,8 @@ public final class HeapsEdgesTest {
         togetherOneRow();
         togetherNone();
         togetherOfTwoRows();
+        togetherInSome();
+        togetherOfOtherRows();
         spanBounds();
         spanNone();
         spanAtTheEnds();
@@ -176,6 +178,35 @@ public final class HeapsEdgesTest {
         Due.be("15: two gaps beside two heaps", 1, Works.byEnds(1, 2, GAP, GAP).together(2, 3));
         Due.be("15: like rows might be in two heaps, but not of the fewest", 2, Works.byEnds(1, 1, 2).together(0, 1));
         Due.be("15: twelve unlike rows", 0, unlike(12).together(10, 11));
+    }
+
+    /** Terms: "1 in some": two partings that have no heap in common. */
+    private static void togetherInSome() {
+        TwoLaws t = Works.byEnds();
+        t.row(1, -1, 0);
+        t.row(4, 0, 0);
+        t.row(0, 4, 1);
+        t.row(4, 0, 8);
+        Due.be("15: two heaps", 2, t.fewest());
+        HeapsTest.pairs("0 with 3 or with 1", t, 1, 0, 1, 1, 0, 1);
+    }
+
+    /** Terms: "all ROWS": none that went. */
+    private static void togetherOfOtherRows() {
+        TwoLaws t = Works.byEnds(3, 3, 1, 2);
+        HeapsTest.pairs("0 with 1", t, 2, 0, 0, 0, 0, 0);
+        t.clear();
+        t.row(4, 0, 1);
+        t.row(4, 0, 2);
+        Due.be("15: other rows, fewest", 2, t.fewest());
+        HeapsTest.pairs("other rows", t, 0);
+        t = Works.byEnds(1, 3, 3, 2);
+        HeapsTest.pairs("1 with 2", t, 0, 0, 0, 2, 0, 0);
+        t.clear();
+        t.row(4, 0, 1);
+        t.row(4, 0, 1);
+        t.row(4, 0, 2);
+        HeapsTest.pairs("other rows, 0 with 1", t, 2, 0, 0);
     }
 
     /** Promise 16: "BAD less 1000000" of the heap, x, u, what. */

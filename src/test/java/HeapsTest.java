@@ -77,7 +77,8 @@ public final class HeapsTest {
         Due.be("14: 2 and 4 are less than 1 and 8", 6, Works.byEnds(5, 6, 6, 5).letGo(1, 1));
     }
 
-    private static void pairs(String name, TwoLaws t, int... want) {
+    /** Of each two rows, 0 and 1, 0 and 2 and so on, how they are together, whichever is told first. */
+    static void pairs(String name, TwoLaws t, int... want) {
         int k = 0;
         for (int a = 0; a < t.count(0); a++) {
             for (int b = a + 1; b < t.count(0); b++) {
