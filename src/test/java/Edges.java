@@ -26,8 +26,13 @@ final class Edges {
         Due.be(name, want, call.on(made.get()));
     }
 
-    /** The call answers want, and all that later calls show is as without it. */
     static void refused(String name, int want, Supplier<TwoLaws> made, Call call) {
+        Due.hold(name + ": " + want + " is a refusal", want < 0);
+        changesNothing(name, want, made, call);
+    }
+
+    /** The call answers want, and all that later calls show is as without it. */
+    static void changesNothing(String name, int want, Supplier<TwoLaws> made, Call call) {
         TwoLaws touched = made.get();
         Due.be(name, want, call.on(touched));
         sameTrace(name, made.get(), touched);

@@ -161,9 +161,9 @@ public final class RowsEdgesTest {
 
     /** Promise 4: "n ROWS (0 .. 12)": none of them, also where all are there, also of an empty row. */
     private static void rowsNone() {
-        Edges.refused("4: none of some", 0, Works::lived, t -> t.rows(0, 0, 0, 0));
-        Edges.refused("4: none at the end", 0, Works::lived, t -> t.rows(0, 0, 9, 0));
-        Edges.refused("4: none has room", 0, Works::full, t -> t.rows(2, 2, 0, 0));
+        Edges.changesNothing("4: none of some", 0, Works::lived, t -> t.rows(0, 0, 0, 0));
+        Edges.changesNothing("4: none at the end", 0, Works::lived, t -> t.rows(0, 0, 9, 0));
+        Edges.changesNothing("4: none has room", 0, Works::full, t -> t.rows(2, 2, 0, 0));
         TwoLaws t = Works.fresh();
         t.sheet(1, 1, 0);
         Due.be("4: none of an empty row", 0, t.rows(1, 1, 0, 0));
@@ -514,7 +514,7 @@ public final class RowsEdgesTest {
 
     /** Promise 8: "All ROWS go: how many." */
     private static void clearEmptyAndFull() {
-        Edges.refused("8: none", 0, Works::fresh, TwoLaws::clear);
+        Edges.changesNothing("8: none", 0, Works::fresh, TwoLaws::clear);
         Edges.taken("8: five", 5, Works::lived, TwoLaws::clear);
         TwoLaws t = Works.full();
         Due.be("8: twelve", 12, t.clear());

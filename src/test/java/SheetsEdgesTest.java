@@ -255,9 +255,9 @@ public final class SheetsEdgesTest {
 
     /** Promise 33: "n items", also none. */
     private static void copyNone() {
-        Edges.refused("33: none", 0, SheetsEdgesTest::nineAndSix, t -> t.copy(0, 2, 1, 2, 0));
-        Edges.refused("33: none, at both ends", 0, SheetsEdgesTest::nineAndSix, t -> t.copy(0, 9, 1, 6, 0));
-        Edges.refused("33: all to their own places", 9, SheetsEdgesTest::nineAndSix, t -> t.copy(0, 0, 0, 0, 9));
+        Edges.changesNothing("33: none", 0, SheetsEdgesTest::nineAndSix, t -> t.copy(0, 2, 1, 2, 0));
+        Edges.changesNothing("33: none, at both ends", 0, SheetsEdgesTest::nineAndSix, t -> t.copy(0, 9, 1, 6, 0));
+        Edges.changesNothing("33: all to their own places", 9, SheetsEdgesTest::nineAndSix, t -> t.copy(0, 0, 0, 0, 9));
         TwoLaws t = Works.fresh();
         t.sheet(0, 1, 0);
         Due.be("33: none of an empty row", 0, t.copy(0, 0, 0, 0, 0));

@@ -374,8 +374,8 @@ public final class TrialsEdgesTest {
 
     /** Promise 28: "the BOX stays". */
     private static void brakeLeavesTheBox() {
-        Edges.refused("28: behind an answer", 5, TrialsEdgesTest::rolling, t -> t.brake(1, 5, 0, 16));
-        Edges.refused("28: of a lived one", 1, Works::lived, t -> t.brake(1, 1, 5, 5));
+        Edges.changesNothing("28: behind an answer", 5, TrialsEdgesTest::rolling, t -> t.brake(1, 5, 0, 16));
+        Edges.changesNothing("28: of a lived one", 1, Works::lived, t -> t.brake(1, 1, 5, 5));
         TwoLaws t = rolling();
         t.brake(1, 40, 0, 51);
         t.step(1);
