@@ -26,9 +26,9 @@ public final class TwoLaws {
     private static final int LANES = 3;
 
     private final Book book = new Book();
-    private final Partings partings = new Partings(book);
+    private final Partings partings = new Partings();
     private final Tape tape = new Tape();
-    private final Trial trial = new Trial(book);
+    private final Trial trial = new Trial();
     private final Known known = new Known();
     private final Box held = new Box();
     /** A second box, so that a brake can be tried while the held one stays. */
@@ -154,14 +154,14 @@ public final class TwoLaws {
     // ---- 2 heaps
 
     public int fewest() {
-        return partings.leastLaws();
+        return partings.leastLaws(book);
     }
 
     public int letGo(int k, int what) {
         if (k < 0 || k > MOST_LAWS_CHOSEN || what < 0 || what > 1) {
             return BAD;
         }
-        int gone = partings.leftOut(k);
+        int gone = partings.leftOut(book, k);
         return what == 0 ? Integer.bitCount(gone) : gone;
     }
 
@@ -169,7 +169,7 @@ public final class TwoLaws {
         if (!book.has(a) || !book.has(b) || a == b) {
             return BAD;
         }
-        return partings.howTogether(a, b);
+        return partings.howTogether(book, a, b);
     }
 
     public int span(int heap, int x, int u, int what) {
@@ -258,8 +258,8 @@ public final class TwoLaws {
         if (!book.isWhole(heap)) {
             return NONE;
         }
-        trial.gather(heap);
-        return trial.leftAtWorst(x, u);
+        trial.gather(book, heap);
+        return trial.leftAtWorst(x, u, book.errorNow());
     }
 
     public int best(int heap, int x) {
@@ -269,11 +269,11 @@ public final class TwoLaws {
         if (!book.isWhole(heap)) {
             return NONE - BELOW_NUMBERS;
         }
-        trial.gather(heap);
+        trial.gather(book, heap);
         int bestPush = 0;
         int fewestLeft = LAWS + 1;
         for (int k = 0; k <= 2 * FAR_TRIED_PUSH; k++) {
-            int left = trial.leftAtWorst(x, pushInTurn(k));
+            int left = trial.leftAtWorst(x, pushInTurn(k), book.errorNow());
             if (left < fewestLeft) {
                 fewestLeft = left;
                 bestPush = pushInTurn(k);
@@ -633,12 +633,11 @@ public final class TwoLaws {
         }
     }
 
-    /** By how few laws heaps are met; asked of a book, kept until told to forget. */
+    /** By how few laws heaps of one book are met; kept until told to forget. */
     private static final class Partings {
         /** Some row of the heap meets no law; more than any number of laws that is needed. */
         private static final int NEVER = 100;
 
-        private final Book book;
         /** The greatest heaps that are whole: every whole heap lies within one. */
         private final int[] greatest = new int[LAWS];
         private int greatestCount = 0;
@@ -647,22 +646,18 @@ public final class TwoLaws {
         /** The heaps of so many first rows are counted; later rows leave those as they are. */
         private int rowsCounted = 0;
 
-        Partings(Book book) {
-            this.book = book;
-        }
-
         void forget() {
             rowsCounted = 0;
         }
 
-        int leastLaws() {
-            countHeaps();
+        int leastLaws(Book book) {
+            countHeaps(book);
             int n = lawsFor(book.all());
             return n >= NEVER ? NONE : n;
         }
 
-        int leftOut(int k) {
-            countHeaps();
+        int leftOut(Book book, int k) {
+            countHeaps(book);
             int kept = 0;
             // Heaps rise, so of like many rows the last kept heap leaves out the least bits.
             for (int heap = 0; heap <= book.all(); heap++) {
@@ -673,20 +668,20 @@ public final class TwoLaws {
             return book.all() & ~kept;
         }
 
-        int howTogether(int a, int b) {
-            int n = leastLaws();
+        int howTogether(Book book, int a, int b) {
+            int n = leastLaws(book);
             if (n < 0) {
                 return NONE;
             }
-            if (!canBeTogether(1 << a | 1 << b, n)) {
+            if (!canBeTogether(book.all(), 1 << a | 1 << b, n)) {
                 return 0;
             }
-            return canBeApart(1 << a, 1 << b, n) ? 1 : 2;
+            return canBeApart(book.all(), 1 << a, 1 << b, n) ? 1 : 2;
         }
 
-        private boolean canBeTogether(int both, int n) {
+        private boolean canBeTogether(int all, int both, int n) {
             for (int i = 0; i < greatestCount && i < greatest.length; i++) {
-                if ((greatest[i] & both) == both && lawsFor(book.all() & ~greatest[i]) < n) {
+                if ((greatest[i] & both) == both && lawsFor(all & ~greatest[i]) < n) {
                     return true;
                 }
             }
@@ -694,18 +689,18 @@ public final class TwoLaws {
         }
 
         /** Rows in two heaps at once may be taken from either, for less of a whole heap is whole. */
-        private boolean canBeApart(int one, int other, int n) {
+        private boolean canBeApart(int all, int one, int other, int n) {
             for (int i = 0; i < greatestCount && i < greatest.length; i++) {
-                if ((greatest[i] & one) != 0 && canBeBeside(greatest[i], other, n)) {
+                if ((greatest[i] & one) != 0 && canBeBeside(all & ~greatest[i], other, n)) {
                     return true;
                 }
             }
             return false;
         }
 
-        private boolean canBeBeside(int heap, int other, int n) {
+        private boolean canBeBeside(int rest, int other, int n) {
             for (int i = 0; i < greatestCount && i < greatest.length; i++) {
-                if ((greatest[i] & other) != 0 && lawsFor(book.all() & ~(heap | greatest[i])) < n - 1) {
+                if ((greatest[i] & other) != 0 && lawsFor(rest & ~greatest[i]) < n - 1) {
                     return true;
                 }
             }
@@ -716,11 +711,11 @@ public final class TwoLaws {
             return heap >= 0 && heap < laws.length ? laws[heap] : NEVER;
         }
 
-        private void countHeaps() {
+        private void countHeaps(Book book) {
             if (rowsCounted == book.size()) {
                 return;
             }
-            findGreatest();
+            findGreatest(book);
             for (int heap = 1 << rowsCounted; heap <= book.all() && heap < laws.length; heap++) {
                 laws[heap] = (byte) countLaws(heap);
             }
@@ -739,7 +734,7 @@ public final class TwoLaws {
             return least;
         }
 
-        private void findGreatest() {
+        private void findGreatest(Book book) {
             greatestCount = 0;
             for (int law = 0; law < LAWS; law++) {
                 int heap = book.rowsMeeting(law);
@@ -769,7 +764,7 @@ public final class TwoLaws {
         private void dropWithin(int heap) {
             int kept = 0;
             for (int i = 0; i < greatestCount && i < greatest.length; i++) {
-                if ((greatest[i] & ~heap) != 0) {
+                if ((greatest[i] & ~heap) != 0 && kept < greatest.length) {
                     greatest[kept] = greatest[i];
                     kept++;
                 }
@@ -929,17 +924,12 @@ public final class TwoLaws {
         /** No end within the error of a tried row's sum is farther from 0: 8 (99 and 9) by 4, and 20. */
         private static final int FAR_END = 236;
 
-        private final Book book;
         private final int[] laws = new int[LAWS];
         private int lawCount = 0;
         /** At each end, how many more laws are met there than at the end before it. */
         private final int[] more = new int[2 * FAR_END + 2];
 
-        Trial(Book book) {
-            this.book = book;
-        }
-
-        void gather(int heap) {
+        void gather(Book book, int heap) {
             lawCount = 0;
             for (int law = 0; law < laws.length; law++) {
                 if (book.letsLaw(heap, law) && lawCount < laws.length) {
@@ -949,12 +939,12 @@ public final class TwoLaws {
             }
         }
 
-        int leftAtWorst(int x, int u) {
+        int leftAtWorst(int x, int u, int error) {
             Arrays.fill(more, 0);
             for (int i = 0; i < lawCount && i < laws.length; i++) {
                 int sum = Law.sum(laws[i], x, u);
-                add(Law.leastEnd(sum, book.errorNow()), 1);
-                add(Law.greatestEnd(sum, book.errorNow()) + 1, -1);
+                add(Law.leastEnd(sum, error), 1);
+                add(Law.greatestEnd(sum, error) + 1, -1);
             }
             int met = 0;
             int most = 0;
