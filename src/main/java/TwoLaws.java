@@ -491,10 +491,10 @@ public final class TwoLaws {
         private int error = 1;
 
         int add(int x, int u, int y, boolean isGap) {
-            if (size < 0 || size >= MOST_ROWS) {
+            int row = size;
+            if (row < 0 || row >= MOST_ROWS) {
                 return FULL;
             }
-            int row = size;
             xs[row] = x;
             us[row] = u;
             ys[row] = y;
@@ -980,10 +980,10 @@ public final class TwoLaws {
                     return NOT;
                 }
             }
-            if (size < 0 || size >= MOST) {
+            int number = size;
+            if (number < 0 || number >= MOST) {
                 return FULL;
             }
-            int number = size;
             laws[number] = law;
             size++;
             mayBe = all();

@@ -18,6 +18,10 @@ final class Due {
         be(what, 1, holds ? 1 : 0);
     }
 
+    static int asked() {
+        return asked;
+    }
+
     /** To be called last in a test's main method. */
     static void end() {
         System.out.println(asked + " answers, " + wrong + " not as due");

