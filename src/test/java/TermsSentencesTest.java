@@ -221,6 +221,7 @@ public final class TermsSentencesTest {
             "error(0) = 1; row(4, 0, 1) = 0; fewest() = 1; row(4, 0, 2) = 1; fewest() = 2; row(4, 0, 1) = 2; fewest() = 2; gap(4, 0) = 3; "
                 + "fewest() = 2; row(4, 0, 8) = 4; fewest() = 3; row(0, 4, 8) = 5; fewest() = 3; row(4, 0, 9) = 6; fewest() = NONE; "
                 + "error(1) = 0; fewest() = 2",
+            "error(0) = 1; row(4, 0, 3) = 0; row(99, 98, 0) = 1; row(0, 4, 8) = 2; fewest() = 2; together(0, 2) = 2; together(0, 1) = 0",
             "row(4, 0, 0) = 0; row(4, 0, 1) = 1; row(4, 0, 2) = 2; row(4, 0, 3) = 3; row(4, 0, 4) = 4; row(4, 0, 5) = 5; fewest() = 2; "
                 + "row(4, 0, 6) = 6; fewest() = 3",
             "error(0) = 1; row(4, 0, -8) = 0; row(4, 0, -7) = 1; row(4, 0, -6) = 2; row(4, 0, -5) = 3; row(4, 0, -4) = 4; "
